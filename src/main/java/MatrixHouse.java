@@ -497,7 +497,7 @@ public final class MatrixHouse {
     }
 
     private static boolean has(int set, int member) {
-        return (set >> member & 1) == 1;
+        return ((set >> member) & 1) == 1;
     }
 
     /**
@@ -523,7 +523,7 @@ public final class MatrixHouse {
                 }
             }
             set |= 1 << tape.number;
-            second += Math.max(1, Math.min(alike, tape.length - at));
+            second += Math.max(1, alike);
         }
         return set;
     }
@@ -639,7 +639,7 @@ public final class MatrixHouse {
         }
 
         boolean isPlayable(int today) {
-            return how == GOOD || how == BAKED && today - bakedOn < BAKED_HOLDS_DAYS;
+            return how == GOOD || (how == BAKED && today - bakedOn < BAKED_HOLDS_DAYS);
         }
 
         int spanLength(int span) {

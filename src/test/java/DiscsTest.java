@@ -64,6 +64,7 @@ public final class DiscsTest {
         Due.is("the lowest of all", 0, () -> x.join((1 << 20) - 1, 7));
         Due.is("the last one alone", 19, () -> x.join(1 << 19, 7));
         Due.outOfRange("a 21st in a set", () -> x.join(1 << 20, 7));
+        Due.noSuch("disc 20", () -> x.noise(20, 7));
     }
 
     private static void promise22Play() {
@@ -142,6 +143,17 @@ public final class DiscsTest {
         x.play(2, 1, 1);
         // 4 of wear: parts 3 to 6 have 1 each, the part 7 has 2
         Due.is("21 of noise", 2, () -> x.grade(2));
+        // 10 of wear: 0, 1, 1, 2, 3, 3, 4 and 5, together 19
+        int[] scratches = {0, 12, 36};
+        for (int i = 0; i < scratches.length; i++) {
+            int grade = 1 + i;
+            MatrixHouse y = withDiscs();
+            y.play(0, 1, 10);
+            for (int j = 0; j < scratches[i]; j++) {
+                y.scratch(0, j % 8);
+            }
+            Due.is("19, 79 or 199 of noise", grade, () -> y.grade(0));
+        }
     }
 
     private static void promise26Join() {
@@ -160,7 +172,8 @@ public final class DiscsTest {
         x.scratch(0, 5);
         x.scratch(1, 5);
         Due.is("the third one", 3, () -> x.join(0b1011, 5));
-        Due.is("as they are now", 0, () -> x.join(0b1011, 5) * 0 + x.scratch(3, 5) * 0 + x.join(0b1011, 5));
+        x.scratch(3, 5);
+        Due.is("as they are now", 0, () -> x.join(0b1011, 5));
     }
 
     private static void promise26JoinThrows() {

@@ -126,6 +126,8 @@ public final class TapesTest {
         Due.notNow("21 spans, the part ahead", () -> x.splice(0, 0, 1, 5, 0));
         Due.is("20 spans again", 6, () -> x.splice(5, 0, 76, 0, 0));
         Due.is("20 spans again", 20, () -> x.tapeIs(6, 5));
+        Due.is("from the border of the first span", 7, () -> x.splice(5, 4, 80, 0, 0));
+        Due.is("20 spans again", 20, () -> x.tapeIs(7, 5));
         Due.is("its end", 3, () -> x.heard(6, 79));
         Due.is("behind its end", MatrixHouse.NONE, () -> x.heard(6, 80));
     }
@@ -257,7 +259,10 @@ public final class TapesTest {
         x.splice(4, 5, 6, MatrixHouse.NONE, 0);
         x.splice(4, 14, 16, 6, 0);
         x.splice(7, 0, 1, 7, 0);
-        int[] wanted = {1, 2, 4, 3, 7, 1, 2, 6, 6};
+        x.splice(0, 0, 5, 1, 0);
+        x.splice(9, 4, 6, 2, 0);
+        x.splice(10, 0, 2, MatrixHouse.NONE, 0);
+        int[] wanted = {1, 2, 4, 3, 7, 1, 2, 6, 6, 3, 7, 3};
         for (int i = 0; i < wanted.length; i++) {
             int tape = i;
             Due.is("takes " + tape, wanted[tape], () -> x.takes(tape));
