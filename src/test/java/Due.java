@@ -56,6 +56,11 @@ final class Due {
         }
     }
 
+    /** How many answers were compared up to now. */
+    static int compared() {
+        return passed + failed;
+    }
+
     static void end(String test) {
         System.out.println(test + ": " + passed + " as due, " + failed + " not as due");
         if (failed > 0) {
