@@ -533,8 +533,8 @@ public final class MatrixHouse {
         for (Tape tape : program.row) {
             if (tape != null) {
                 for (int i = 0; i < tape.spans; i++) {
-                    int take = tape.spanTakes[i];
-                    side.addSpan(take, tapeAt(take).artist, tape.spanLength(i));
+                    int take = tape.takeOf(i);
+                    side.addSpan(take, tapeAt(take).artist, tape.lengthOf(i));
                 }
             }
         }
@@ -642,15 +642,28 @@ public final class MatrixHouse {
             return how == GOOD || (how == BAKED && today - bakedOn < BAKED_HOLDS_DAYS);
         }
 
-        int spanLength(int span) {
-            return spanTos[span] - spanFroms[span];
+        int takeOf(int span) {
+            return isPlace(span) ? spanTakes[span] : NONE;
+        }
+
+        int lengthOf(int span) {
+            return isPlace(span) ? spanTos[span] - spanFroms[span] : 0;
+        }
+
+        /** The second of its take with which a span begins. */
+        private int fromOf(int span) {
+            return isPlace(span) ? spanFroms[span] : 0;
+        }
+
+        private static boolean isPlace(int span) {
+            return span >= 0 && span < MOST_SPANS;
         }
 
         int spansBetween(int from, int to) {
             int start = 0;
             int found = 0;
             for (int i = 0; i < spans; i++) {
-                int end = start + spanLength(i);
+                int end = start + lengthOf(i);
                 if (start < to && end > from) {
                     found++;
                 }
@@ -662,9 +675,9 @@ public final class MatrixHouse {
         int heardAt(int second) {
             int start = 0;
             for (int i = 0; i < spans; i++) {
-                int end = start + spanLength(i);
+                int end = start + lengthOf(i);
                 if (second < end) {
-                    return HEARD_PER_TAKE * spanTakes[i] + spanFroms[i] + second - start;
+                    return HEARD_PER_TAKE * takeOf(i) + fromOf(i) + second - start;
                 }
                 start = end;
             }
@@ -674,7 +687,7 @@ public final class MatrixHouse {
         int takeSet() {
             int set = 0;
             for (int i = 0; i < spans; i++) {
-                set |= 1 << spanTakes[i];
+                set |= 1 << takeOf(i);
             }
             return set;
         }
@@ -684,16 +697,16 @@ public final class MatrixHouse {
             int start = 0;
             for (int i = 0; i < of.spans; i++) {
                 int first = Math.max(from - start, 0);
-                int last = Math.min(to - start, of.spanLength(i));
+                int last = Math.min(to - start, of.lengthOf(i));
                 if (first < last) {
-                    append(of.spanTakes[i], of.spanFroms[i] + first, of.spanFroms[i] + last);
+                    append(of.takeOf(i), of.fromOf(i) + first, of.fromOf(i) + last);
                 }
-                start += of.spanLength(i);
+                start += of.lengthOf(i);
             }
         }
 
         private void append(int take, int from, int to) {
-            if (spans < MOST_SPANS) {
+            if (isPlace(spans)) {
                 spanTakes[spans] = take;
                 spanFroms[spans] = from;
                 spanTos[spans] = to;
@@ -709,7 +722,7 @@ public final class MatrixHouse {
         int count;
 
         void append(Tape tape) {
-            if (count < row.length) {
+            if (count >= 0 && count < row.length) {
                 row[count] = tape;
                 count++;
             }

@@ -68,6 +68,62 @@ public final class PlainHouse {
         return discs.size();
     }
 
+    int lengthOf(int tape) {
+        return tape >= 0 && tape < tapes.size() ? tapes.get(tape).heard.size() : 0;
+    }
+
+    /** How far a house came to one of its limits: the most that there is of what is named. */
+    int reached(String what) {
+        int most = 0;
+        switch (what) {
+            case "tapes":
+                return tapes.size();
+            case "spans":
+                for (Tape tape : tapes) {
+                    most = Math.max(most, spans(tape));
+                }
+                return most;
+            case "tapes of a program":
+                return program.size();
+            case "sides":
+                return sides.size();
+            case "stampers":
+                for (int side = 0; side < sides.size(); side++) {
+                    most = Math.max(most, stampersOf(side).size());
+                }
+                return most;
+            case "pressed":
+                for (int side = 0; side < sides.size(); side++) {
+                    for (Stamper stamper : stampersOf(side)) {
+                        most = Math.max(most, stamper.pressed);
+                    }
+                }
+                return most;
+            case "sales":
+                return sales.size();
+            case "discs":
+                return discs.size();
+            case "repairs":
+                return repairs.size();
+            case "days":
+                return day;
+            default:
+                throw new IllegalArgumentException(what);
+        }
+    }
+
+    private List<Stamper> stampersOf(int side) {
+        List<Stamper> made = new ArrayList<>();
+        for (Stamper[] row : matrices.get(side)) {
+            for (Stamper stamper : row) {
+                if (stamper != null) {
+                    made.add(stamper);
+                }
+            }
+        }
+        return made;
+    }
+
     private static void index(boolean holds) {
         if (!holds) {
             throw new IndexOutOfBoundsException();
@@ -308,13 +364,7 @@ public final class PlainHouse {
         }
         matrix[mother][number] = new Stamper();
         matrix[mother][number].made = day;
-        int made = 0;
-        for (Stamper[] row : matrix) {
-            for (Stamper stamper : row) {
-                made += stamper != null ? 1 : 0;
-            }
-        }
-        return made;
+        return stampersOf(side).size();
     }
 
     public int press(int side, int mother, int number, int discs) {
